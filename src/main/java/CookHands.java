@@ -121,8 +121,8 @@ public final class CookHands {
         if (i < 0) {
             return refuse(BAD, BAD_BESIDE_NONE);
         }
-        int minutes = planner.plan();
-        return i < minutes ? planner.setInRow(i) : NOT_SO_MANY;
+        planner.plan();
+        return planner.row.setAt(i);
     }
 
     public int whose(int dishes, int j) {
@@ -206,7 +206,7 @@ public final class CookHands {
         if (planner.plan() == NONE) {
             return refuse(NO, NO);
         }
-        fraction.setPower(ODDS - w, ODDS, planner.sharedMinutes());
+        fraction.setPower(ODDS - w, ODDS, planner.row.countShared());
         return 1;
     }
 
@@ -217,7 +217,7 @@ public final class CookHands {
         if (planner.plan() == NONE) {
             return refuse(NO, NO_BESIDE_NONE);
         }
-        return planner.firstBurnt(w, seed);
+        return planner.row.firstBurnt(w, seed);
     }
 
     public int letGo(int cook) {
@@ -227,17 +227,17 @@ public final class CookHands {
         if (planner.plan() == NONE) {
             return refuse(NO, NO);
         }
-        int shared = planner.sharedMinutes();
+        int shared = planner.row.countShared();
         if (shared == 0) {
             fraction.setZero();
         } else {
-            fraction.setPower(planner.sharedMinutesOf(cook), shared, 1);
+            fraction.setPower(planner.row.countSharedBy(cook), shared, 1);
         }
         return 1;
     }
 
     public int wages() {
-        return planner.plan() == NONE ? NONE : planner.wagesOfRow();
+        return planner.plan() == NONE ? NONE : planner.row.sumOfWages(kitchen);
     }
 
     // ---- cooking
@@ -908,35 +908,123 @@ public final class CookHands {
         }
     }
 
+    /** ROW: of each minute the DISHES that go on, and the COOKS by whom. */
+    private static final class Row {
+        private final int[] sets = new int[MOST_MINUTES];
+        /** The COOKS of each DISH in each minute, as bits. */
+        private final int[] teams = new int[MOST_MINUTES * MOST_DISHES];
+        private int minutes;
+
+        private void empty() {
+            minutes = 0;
+        }
+
+        private void add(int set, Crew crew) {
+            if (minutes < MOST_MINUTES) {
+                sets[minutes] = set;
+                for (int i = 0; i < MOST_DISHES; i++) {
+                    teams[minutes * MOST_DISHES + i] = crew.teamOf(i);
+                }
+                minutes++;
+            }
+        }
+
+        private int setAt(int minute) {
+            return minute >= 0 && minute < minutes && minute < MOST_MINUTES ? sets[minute] : NOT_SO_MANY;
+        }
+
+        private int teamAt(int minute, int dish) {
+            int at = minute * MOST_DISHES + dish;
+            return at >= 0 && at < teams.length ? teams[at] : 0;
+        }
+
+        /** Whether a DISH goes on in that minute by two COOKS or more: then it may burn. */
+        private boolean isShared(int minute, int dish) {
+            return Integer.bitCount(teamAt(minute, dish)) >= 2;
+        }
+
+        private int countShared() {
+            int sum = 0;
+            for (int minute = 0; minute < minutes; minute++) {
+                for (int dish = 0; dish < MOST_DISHES; dish++) {
+                    sum += isShared(minute, dish) ? 1 : 0;
+                }
+            }
+            return sum;
+        }
+
+        private int countSharedBy(int cook) {
+            int sum = 0;
+            for (int minute = 0; minute < minutes; minute++) {
+                for (int dish = 0; dish < MOST_DISHES; dish++) {
+                    sum += isShared(minute, dish) && isIn(teamAt(minute, dish), cook) ? 1 : 0;
+                }
+            }
+            return sum;
+        }
+
+        private int firstBurnt(int w, int seed) {
+            long x = seed;
+            for (int minute = 0; minute < minutes; minute++) {
+                for (int dish = 0; dish < MOST_DISHES; dish++) {
+                    if (isShared(minute, dish)) {
+                        x = (x * 1103515245L + 12345L) % 2147483648L;
+                        if (x / 65536L % ODDS < w) {
+                            return 10 * minute + dish;
+                        }
+                    }
+                }
+            }
+            return NONE;
+        }
+
+        private int sumOfWages(Kitchen kitchen) {
+            int sum = 0;
+            for (int minute = 0; minute < minutes; minute++) {
+                int atWork = teamAt(minute, 0) | teamAt(minute, 1) | teamAt(minute, 2);
+                for (int cook = 0; cook < kitchen.cooks; cook++) {
+                    sum += isIn(atWork, cook) ? kitchen.wageOf(cook) : 0;
+                }
+            }
+            return sum;
+        }
+    }
+
     /**
      * SOONEST, ROW, COLD: over all states of three DISHES from now on. A state
-     * holds of each DISH the minutes done in all, by four bits.
+     * holds of each DISH the minutes done in all, by four bits; a set holds
+     * DISHES as bits.
      */
     private static final class Planner {
         private static final int PLACE_BITS = 4, PLACES = 1 << PLACE_BITS, STATES = PLACES * PLACES * PLACES;
-        private static final int ALL_SETS = 1 << MOST_DISHES;
-        /** What a state grows by when a set of DISHES goes on. */
+        private static final int SETS = 1 << MOST_DISHES;
+        /** What a state grows by when a set goes on. */
         private static final int[] STRIDE = {0, 1, 16, 17, 256, 257, 272, 273};
+        /** What makes NO_STEP in a key of all DISHES outside a set. */
+        private static final int[] OUTSIDE = {63, 60, 51, 48, 15, 12, 3, 0};
+        /** The sets that hold all DISHES of a set, a bit for each. */
+        private static final int[] HOLDING = {255, 170, 204, 136, 240, 160, 192, 128};
         /** More than any sum of minutes, and far from overflow. */
         private static final int NEVER = 1000000;
 
         private final Kitchen kitchen;
         private final Crew crew;
+        private final Row row = new Row();
         private boolean isKnown;
         private int soonestMinutes;
         private final int[] now = new int[MOST_DISHES];
         private final int[] end = new int[MOST_DISHES];
         private final int[] stepAt = new int[MOST_DISHES * PLACES];
         private final boolean[] begunAt = new boolean[MOST_DISHES * PLACES];
-        private final boolean[] mayGoOn = new boolean[KEYS];
+        private final boolean[] canBe = new boolean[KEYS];
+        /** Of each key the sets of its DISHES that can go on, a bit for each. */
+        private final int[] openSets = new int[KEYS];
         private final int[] states = new int[STATES];
         private int stateCount;
-        /** Of each state the sets of DISHES that may go on in it, a bit for each set. */
+        /** Of each state the sets that may go on in it, a bit for each. */
         private final int[] moves = new int[STATES];
         private final int[] fewest = new int[STATES];
         private final int[] coldSums = new int[STATES];
-        private final int[] setsInRow = new int[MOST_MINUTES];
-        private final int[] teams = new int[MOST_MINUTES * MOST_DISHES];
 
         private Planner(Kitchen kitchen, Crew crew) {
             this.kitchen = kitchen;
@@ -947,7 +1035,7 @@ public final class CookHands {
             isKnown = false;
         }
 
-        /** SOONEST or NONE; all that the other answers need is laid ready. */
+        /** SOONEST or NONE; the ROW and all that the other answers need is laid ready. */
         private int plan() {
             if (!isKnown) {
                 crew.gather(kitchen.strike);
@@ -966,12 +1054,10 @@ public final class CookHands {
 
         private int survey() {
             layPlaces();
-            for (int key = 0; key < KEYS; key++) {
-                mayGoOn[key] = crew.isEnoughFor(key);
-            }
+            layOpenSets();
             layStates();
             countFewest();
-            return minutesFor(kitchen.allDishes());
+            return minutesFor(SETS - 1);
         }
 
         private void layPlaces() {
@@ -984,6 +1070,30 @@ public final class CookHands {
                     begunAt[i * PLACES + place] = place < end[i] && dish.minutesInStepAfter(place) > 0;
                 }
             }
+        }
+
+        private void layOpenSets() {
+            for (int key = 0; key < KEYS; key++) {
+                canBe[key] = crew.isEnoughFor(key);
+            }
+            for (int key = 0; key < KEYS; key++) {
+                int open = 0;
+                for (int set = 0; set < SETS; set++) {
+                    if (hasSteps(key, set) && canBe[key | OUTSIDE[set]]) {
+                        open |= 1 << set;
+                    }
+                }
+                openSets[key] = open;
+            }
+        }
+
+        private static boolean hasSteps(int key, int set) {
+            for (int i = 0; i < MOST_DISHES; i++) {
+                if (isIn(set, i) && stepInKey(key, i) == NO_STEP) {
+                    return false;
+                }
+            }
+            return true;
         }
 
         private static int stateOfPlaces(int first, int second, int third) {
@@ -1003,41 +1113,27 @@ public final class CookHands {
                         int state = stateOfPlaces(first, second, third);
                         states[stateCount] = state;
                         stateCount++;
-                        moves[state] = movesIn(state);
+                        moves[state] = openSets[keyOfState(state)] & HOLDING[begunIn(state)];
                     }
                 }
             }
         }
 
-        private int movesIn(int state) {
-            int must = 0;
-            int can = 0;
+        /** The key of a minute in which all DISHES go on that are not done. */
+        private int keyOfState(int state) {
+            int key = 0;
             for (int i = 0; i < MOST_DISHES; i++) {
-                int at = i * PLACES + placeIn(state, i);
-                must |= begunAt[at] ? 1 << i : 0;
-                can |= stepAt[at] != NO_STEP ? 1 << i : 0;
-            }
-            int found = 0;
-            for (int set = must; set <= can; set++) {
-                if ((set & must) == must && (set & ~can) == 0 && mayGoOn[keyIn(state, set)]) {
-                    found |= 1 << set;
-                }
-            }
-            return found;
-        }
-
-        private int keyIn(int state, int set) {
-            int key = KEY_OF_NONE;
-            for (int i = 0; i < MOST_DISHES; i++) {
-                if (isIn(set, i)) {
-                    key = keyWithStep(key, i, stepAt[i * PLACES + placeIn(state, i)]);
-                }
+                key |= stepAt[i * PLACES + placeIn(state, i)] << KEY_BITS * i;
             }
             return key;
         }
 
-        private boolean mayGo(int state, int set) {
-            return isIn(moves[state], set);
+        private int begunIn(int state) {
+            int set = 0;
+            for (int i = 0; i < MOST_DISHES; i++) {
+                set |= begunAt[i * PLACES + placeIn(state, i)] ? 1 << i : 0;
+            }
+            return set;
         }
 
         private static int stateBehind(int state, int set) {
@@ -1045,25 +1141,35 @@ public final class CookHands {
             return next < STATES ? next : state;
         }
 
+        private int firstState() {
+            return stateOfPlaces(now[0], now[1], now[2]);
+        }
+
         private int lastState() {
             return stateOfPlaces(end[0], end[1], end[2]);
         }
 
         private void countFewest() {
-            int last = lastState();
             for (int i = stateCount - 1; i >= 0; i--) {
                 int state = states[i];
-                int best = state == last ? 0 : NEVER;
-                for (int set = 1; set < ALL_SETS; set++) {
-                    if (mayGo(state, set)) {
-                        best = Math.min(best, 1 + fewest[stateBehind(state, set)]);
-                    }
-                }
-                fewest[state] = best;
+                fewest[state] = state == lastState() ? 0 : 1 + leastBehind(fewest, state, 1);
             }
         }
 
-        /** The fewest minutes for a set of DISHES, were no others there; or NONE. */
+        /** The least number of the states that a set from the first one on leads to, or NEVER. */
+        private int leastBehind(int[] numbers, int state, int firstSet) {
+            int least = NEVER;
+            int open = moves[state] >> firstSet;
+            for (int set = firstSet; set < SETS && open != 0; set++) {
+                if ((open & 1) != 0) {
+                    least = Math.min(least, numbers[stateBehind(state, set)]);
+                }
+                open >>= 1;
+            }
+            return least;
+        }
+
+        /** The fewest minutes for a set, were no other DISHES there; or NONE. */
         private int minutesFor(int set) {
             int first = isIn(set, 0) ? now[0] : end[0];
             int second = isIn(set, 1) ? now[1] : end[1];
@@ -1073,120 +1179,52 @@ public final class CookHands {
         }
 
         private void writeRow() {
-            int state = stateOfPlaces(now[0], now[1], now[2]);
-            for (int minute = 0; minute < soonestMinutes && minute < MOST_MINUTES; minute++) {
+            row.empty();
+            int state = firstState();
+            for (int minute = 0; minute < soonestMinutes; minute++) {
                 int set = firstShortening(state);
-                setsInRow[minute] = set;
                 crew.gather(kitchen.strike);
-                crew.lineUp(keyIn(state, set));
-                for (int i = 0; i < MOST_DISHES; i++) {
-                    teams[minute * MOST_DISHES + i] = crew.teamOf(i);
-                }
+                crew.lineUp(keyOfState(state) | OUTSIDE[set]);
+                row.add(set, crew);
                 state = stateBehind(state, set);
             }
         }
 
         private int firstShortening(int state) {
-            for (int set = 1; set < ALL_SETS; set++) {
-                if (mayGo(state, set) && fewest[stateBehind(state, set)] == fewest[state] - 1) {
+            for (int set = 1; set < SETS; set++) {
+                if (isIn(moves[state], set) && fewest[stateBehind(state, set)] == fewest[state] - 1) {
                     return set;
                 }
             }
             return 0;
         }
 
-        private int setInRow(int minute) {
-            return minute >= 0 && minute < soonestMinutes && minute < MOST_MINUTES ? setsInRow[minute] : 0;
-        }
-
         /**
-         * COLD: each DISH that is done ahead of a minute has gone cold by that
-         * minute, so a state costs as many as are done in it. In round r the
-         * sums hold for r minutes that are left; a state's own old sum is that
-         * of waiting, those behind it are not yet overwritten.
+         * COLD: a DISH that is done goes cold by a minute in each minute behind
+         * it, so a state costs a minute of each DISH done in it. After a round
+         * the sums hold for one minute more ahead of NINE; a state's own old
+         * sum is that of waiting, and those behind it are not yet overwritten.
          */
         private int coldest(int nine) {
-            int last = lastState();
             for (int i = 0; i < stateCount; i++) {
-                coldSums[states[i]] = states[i] == last ? 0 : NEVER;
+                coldSums[states[i]] = states[i] == lastState() ? 0 : NEVER;
             }
             for (int left = 1; left <= nine; left++) {
                 for (int i = 0; i < stateCount; i++) {
-                    coldSums[states[i]] = Math.min(NEVER, doneIn(states[i]) + leastColdBehind(states[i]));
+                    int state = states[i];
+                    if (fewest[state] <= left) {
+                        coldSums[state] = doneIn(state) + leastBehind(coldSums, state, 0);
+                    }
                 }
             }
-            int sum = coldSums[stateOfPlaces(now[0], now[1], now[2])];
+            int sum = coldSums[firstState()];
             return sum < NEVER ? sum : NONE;
-        }
-
-        private int leastColdBehind(int state) {
-            int best = NEVER;
-            for (int set = 0; set < ALL_SETS; set++) {
-                if (mayGo(state, set)) {
-                    best = Math.min(best, coldSums[stateBehind(state, set)]);
-                }
-            }
-            return best;
         }
 
         private int doneIn(int state) {
             int sum = 0;
             for (int i = 0; i < kitchen.dishCount; i++) {
                 sum += placeIn(state, i) == end[i] ? 1 : 0;
-            }
-            return sum;
-        }
-
-        /** Whether a DISH of the ROW goes on in that minute by two COOKS or more. */
-        private boolean isShared(int minute, int dish) {
-            return Integer.bitCount(teamIn(minute, dish)) >= 2;
-        }
-
-        private int teamIn(int minute, int dish) {
-            int at = minute * MOST_DISHES + dish;
-            return at >= 0 && at < teams.length ? teams[at] : 0;
-        }
-
-        private int sharedMinutes() {
-            int sum = 0;
-            for (int at = 0; at < soonestMinutes * MOST_DISHES; at++) {
-                sum += isShared(at / MOST_DISHES, at % MOST_DISHES) ? 1 : 0;
-            }
-            return sum;
-        }
-
-        private int sharedMinutesOf(int cook) {
-            int sum = 0;
-            for (int at = 0; at < soonestMinutes * MOST_DISHES; at++) {
-                int minute = at / MOST_DISHES;
-                int dish = at % MOST_DISHES;
-                sum += isShared(minute, dish) && isIn(teamIn(minute, dish), cook) ? 1 : 0;
-            }
-            return sum;
-        }
-
-        private int firstBurnt(int w, int seed) {
-            long x = seed;
-            for (int at = 0; at < soonestMinutes * MOST_DISHES; at++) {
-                int minute = at / MOST_DISHES;
-                int dish = at % MOST_DISHES;
-                if (isShared(minute, dish)) {
-                    x = (x * 1103515245L + 12345L) % 2147483648L;
-                    if (x / 65536 % ODDS < w) {
-                        return 10 * minute + dish;
-                    }
-                }
-            }
-            return NONE;
-        }
-
-        private int wagesOfRow() {
-            int sum = 0;
-            for (int minute = 0; minute < soonestMinutes; minute++) {
-                int atWork = teamIn(minute, 0) | teamIn(minute, 1) | teamIn(minute, 2);
-                for (int cook = 0; cook < kitchen.cooks; cook++) {
-                    sum += isIn(atWork, cook) ? kitchen.wageOf(cook) : 0;
-                }
             }
             return sum;
         }
