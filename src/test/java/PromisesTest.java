@@ -48,7 +48,7 @@ public final class PromisesTest {
     }
 
     private static void theSoonest() {
-        promise = 11; soonest(); soonestByHands();
+        promise = 11; soonest(); soonestByHands(); soonestBehindEachCall();
         promise = 12; row();
         promise = 13; whose(); whoseOfKinds();
         promise = 14; cold();
@@ -429,6 +429,52 @@ public final class PromisesTest {
         x.strike(true);
         due(-1, x.soonest());
         knivesAreShared();
+    }
+
+    /** SOONEST is asked ahead of each call and behind it: none is answered from how it was. */
+    private static void soonestBehindEachCall() {
+        CookHands x = withDish(kitchen(STRIKER), 1, 0, 1, 3);
+        x.cooked(1);
+        due(2, x.soonest());
+        x.image(0);
+        x.dish();
+        due(3, x.soonest());
+        x.step(1, 1, 0, 0, 1);
+        due(4, x.soonest());
+        x.cook(APPRENTICE, 0);
+        due(3, x.soonest());
+        x.knives(0);
+        due(-1, x.soonest());
+        x.knives(1);
+        due(3, x.soonest());
+        x.strike(true);
+        due(-1, x.soonest());
+        x.strike(false);
+        x.cooked(3);
+        due(2, x.soonest());
+        x.undo();
+        due(3, x.soonest());
+        x.from(0);
+        due(2, x.soonest());
+        due(1, read(x, "dish;"));
+        due(0, x.soonest());
+        askingChangesNothing();
+    }
+
+    private static void askingChangesNothing() {
+        CookHands x = withDish(withDish(kitchen(COOK, STRIKER, LEFTY), 1, 0, 0, 2), 1, 1, 0, 3);
+        due(3, x.soonest());
+        due(2, x.strikeCost());
+        due(3, x.soonest());
+        due(-1, withDish(x, 2, 2, 0, 1).help(0));
+        due(-1, x.soonest());
+        CookHands y = withDish(withDish(kitchen(COOK), 1, 0, 0, 2), 1, 0, 0, 3);
+        due(2, y.help(0));
+        due(1, y.menu(3));
+        due(5, y.soonest());
+        due(0, y.spared());
+        due(1, y.menu(2));
+        due(2, y.cold(5));
     }
 
     private static void knivesAreShared() {
@@ -839,9 +885,12 @@ public final class PromisesTest {
         for (int i = 0; i < 45; i++) {
             due((i + 1) / 15, long45.cooked(1 << i / 15));
         }
+        due(0, long45.soonest());
+        due(30, long45.cold(10));
         for (int i = 0; i < 45; i++) {
             due(1, long45.undo());
         }
+        due(45, long45.soonest());
         due(-3, long45.undo());
     }
 
