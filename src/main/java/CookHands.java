@@ -757,6 +757,16 @@ public final class CookHands {
             }
         }
 
+        /** KNIVES are held with the first hands of a STEP, and its RIGHT ones come first. */
+        private void addStep(int right, int left, int knives) {
+            int knivesRight = knives < right ? knives : right;
+            int knivesLeft = knives - knivesRight;
+            sharpRight += knivesRight;
+            bluntRight += right - knivesRight;
+            sharpLeft += knivesLeft;
+            bluntLeft += left - knivesLeft;
+        }
+
         /** Only THUMBS bind the sides together, so the sides can be counted each alone first. */
         private boolean covers(Hands needed) {
             int spareRight = sharpRight - needed.sharpRight;
@@ -851,10 +861,9 @@ public final class CookHands {
             for (int i = 0; i < MOST_DISHES; i++) {
                 Dish dish = kitchen.dishAt(i);
                 int step = stepInKey(key, i);
-                for (int hand = 0; hand < dish.handsOf(step); hand++) {
-                    boolean isSharp = dish.isSharpHand(step, hand);
-                    needed.add(dish.isRightHand(step, hand), isSharp, 1);
-                    knivesNeeded += isSharp ? 1 : 0;
+                if (dish.hasStep(step)) {
+                    needed.addStep(dish.right[step], dish.left[step], dish.knives[step]);
+                    knivesNeeded += dish.knives[step];
                 }
             }
         }

@@ -1,12 +1,5 @@
 /** For each promise of the document its ordinary inputs, its edges and its wrong inputs, worked out by hand. */
-public final class PromisesTest {
-    private static final int MAX = Integer.MAX_VALUE, MIN = Integer.MIN_VALUE;
-    private static final int COOK = 0, LEFTY = 1, APPRENTICE = 2, MASTER = 3, STRIKER = 4, THUMB = 5;
-
-    private static int promise;
-    private static int checks;
-    private static int wrong;
-
+public final class PromisesTest extends Checks {
     public static void main(String[] args) {
         aKitchen();
         theText();
@@ -14,128 +7,57 @@ public final class PromisesTest {
         burnsAndWages();
         cooking();
         whatThereIs();
-        System.out.println(checks + " checks of the promises, " + wrong + " wrong");
-        System.exit(wrong == 0 ? 0 : 1);
-    }
-
-    private static void due(long want, long got) {
-        checks++;
-        if (got != want) {
-            wrong++;
-            System.out.println("promise " + promise + ": answered " + got + ", due is " + want + " " + where());
-        }
-    }
-
-    private static String where() {
-        StackTraceElement at = new Throwable().getStackTrace()[2];
-        return "(" + at.getFileName() + ":" + at.getLineNumber() + ")";
+        end("the promises");
     }
 
     private static void aKitchen() {
-        promise = 1; newObject();
-        promise = 2; cook();
-        promise = 3; dish();
-        promise = 4; step();
-        promise = 5; knives();
-        promise = 6; strike();
-        promise = 7; hands();
+        of("promise 1"); newObject();
+        of("promise 2"); cook();
+        of("promise 3"); dish();
+        of("promise 4"); step();
+        of("promise 5"); knives();
+        of("promise 6"); strike();
+        of("promise 7"); hands();
     }
 
     private static void theText() {
-        promise = 8; type();
-        promise = 9; clear();
-        promise = 10; read(); readFaults(); readRefusals();
+        of("promise 8"); type();
+        of("promise 9"); clear();
+        of("promise 10"); read(); readFaults(); readRefusals();
     }
 
     private static void theSoonest() {
-        promise = 11; soonest(); soonestByHands(); soonestBehindEachCall();
-        promise = 12; row();
-        promise = 13; whose(); whoseOfKinds();
-        promise = 14; cold();
-        promise = 15; help();
-        promise = 16; spared();
-        promise = 17; strikeCost();
-        promise = 18; menu();
+        of("promise 11"); soonest(); soonestByHands(); soonestBehindEachCall();
+        of("promise 12"); row();
+        of("promise 13"); whose(); whoseOfKinds();
+        of("promise 14"); cold();
+        of("promise 15"); help();
+        of("promise 16"); spared();
+        of("promise 17"); strikeCost();
+        of("promise 18"); menu();
     }
 
     private static void burnsAndWages() {
-        promise = 19; burns();
-        promise = 20; drawn();
-        promise = 21; letGo();
-        promise = 22; wages();
+        of("promise 19"); burns();
+        of("promise 20"); drawn();
+        of("promise 21"); letGo();
+        of("promise 22"); wages();
     }
 
     private static void cooking() {
-        promise = 23; cooked();
-        promise = 24; undo(); anew();
-        promise = 25; state();
+        of("promise 23"); cooked();
+        of("promise 24"); undo(); anew();
+        of("promise 25"); state();
     }
 
     private static void whatThereIs() {
-        promise = 26; sign();
-        promise = 27; limb();
-        promise = 28; image();
-        promise = 29; from();
-        promise = 30; status(); statusOfOtherAnswers();
-        promise = 31; count();
-        promise = 32; digest();
-    }
-
-    // ---- kitchens
-
-    private static CookHands kitchen(int... kinds) {
-        CookHands x = new CookHands();
-        for (int kind : kinds) {
-            x.cook(kind, 1);
-        }
-        return x;
-    }
-
-    /** One DISH: its STEPS by four numbers each. */
-    private static CookHands withDish(CookHands x, int... steps) {
-        int dish = x.dish();
-        for (int i = 0; i + 3 < steps.length; i += 4) {
-            x.step(dish, steps[i], steps[i + 1], steps[i + 2], steps[i + 3]);
-        }
-        return x;
-    }
-
-    /** What soonest answers for one STEP of a minute by these COOKS. */
-    private static int soonestOf(int right, int left, int knives, int... kinds) {
-        return withDish(kitchen(kinds), right, left, knives, 1).soonest();
-    }
-
-    private static int type(CookHands x, String text) {
-        int length = -1;
-        for (int i = 0; i < text.length(); i++) {
-            length = x.type(text.charAt(i), 1);
-        }
-        return length;
-    }
-
-    private static int read(CookHands x, String card) {
-        x.clear();
-        type(x, card);
-        return x.read();
-    }
-
-    private static int read(String card) {
-        return read(new CookHands(), card);
-    }
-
-    private static void statusDue(CookHands x, int bad, int no, int full) {
-        due(bad, x.status(0));
-        due(no, x.status(1));
-        due(full, x.status(2));
-    }
-
-    private static void fractionDue(CookHands x, int above, int below) {
-        due(above == 0 ? 0 : 1, x.sign(0));
-        due(above == 0 ? 0 : 1, x.sign(1));
-        due(1, x.sign(2));
-        due(above == 0 ? -1 : above, x.limb(0, 0));
-        due(below, x.limb(1, 0));
-        due(-1, x.limb(1, 1));
+        of("promise 26"); sign();
+        of("promise 27"); limb();
+        of("promise 28"); image();
+        of("promise 29"); from();
+        of("promise 30"); status(); statusOfOtherAnswers();
+        of("promise 31"); count();
+        of("promise 32"); digest();
     }
 
     // ---- a kitchen
@@ -541,27 +463,20 @@ public final class PromisesTest {
     }
 
     private static void whoseOfKinds() {
-        rowDue(withDish(kitchen(MASTER, COOK, LEFTY), 2, 2, 0, 1), 1, 0, 1, 0, 2);
-        rowDue(withDish(kitchen(APPRENTICE, COOK), 2, 0, 1, 1), 1, 1, 0);
-        rowDue(withDish(kitchen(THUMB, COOK, COOK), 2, 1, 0, 1), 1, 1, 2, 0);
-        rowDue(withDish(kitchen(THUMB, COOK, LEFTY), 1, 1, 0, 1), 1, 0, 2);
-        rowDue(withDish(kitchen(APPRENTICE, THUMB, MASTER), 1, 1, 1, 1), 1, 2, 1);
-        rowDue(withDish(kitchen(THUMB, LEFTY, COOK), 1, 1, 2, 1), 1, 2, 1);
-        rowDue(withDish(kitchen(COOK, LEFTY, MASTER), 0, 2, 1, 1), 1, 1, 2);
+        handsDue(withDish(kitchen(MASTER, COOK, LEFTY), 2, 2, 0, 1), 1, 0, 1, 0, 2);
+        handsDue(withDish(kitchen(APPRENTICE, COOK), 2, 0, 1, 1), 1, 1, 0);
+        handsDue(withDish(kitchen(THUMB, COOK, COOK), 2, 1, 0, 1), 1, 1, 2, 0);
+        handsDue(withDish(kitchen(THUMB, COOK, LEFTY), 1, 1, 0, 1), 1, 0, 2);
+        handsDue(withDish(kitchen(APPRENTICE, THUMB, MASTER), 1, 1, 1, 1), 1, 2, 1);
+        handsDue(withDish(kitchen(THUMB, LEFTY, COOK), 1, 1, 2, 1), 1, 2, 1);
+        handsDue(withDish(kitchen(COOK, LEFTY, MASTER), 0, 2, 1, 1), 1, 1, 2);
         CookHands x = withDish(withDish(kitchen(COOK, APPRENTICE), 1, 0, 0, 1), 1, 0, 1, 1);
-        rowDue(x, 3, 1, 0);
-        rowDue(x, 1, 0);
+        handsDue(x, 3, 1, 0);
+        handsDue(x, 1, 0);
         CookHands y = withDish(kitchen(STRIKER, COOK), 1, 0, 0, 1);
-        rowDue(y, 1, 0);
+        handsDue(y, 1, 0);
         y.strike(true);
-        rowDue(y, 1, 1);
-    }
-
-    private static void rowDue(CookHands x, int dishes, int... cooks) {
-        for (int j = 0; j < cooks.length; j++) {
-            due(cooks[j], x.whose(dishes, j));
-        }
-        due(-5, x.whose(dishes, cooks.length));
+        handsDue(y, 1, 1);
     }
 
     private static void cold() {
@@ -1089,13 +1004,5 @@ public final class PromisesTest {
         x.cook(9, 9);
         x.image(1);
         due(digestOf(2, 2, 3, 1, 2, 1, 3, 7, 1, 8, 2, 1, 2, 3, 3, 1, 0, 0, 2, 0, 0, 1, 0, 0, 1, 1, 1, 9, 16), x.digest());
-    }
-
-    private static long digestOf(int... values) {
-        long h = 709;
-        for (int v : values) {
-            h = 31 * h + v;
-        }
-        return h;
     }
 }
