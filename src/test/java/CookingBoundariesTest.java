@@ -15,6 +15,7 @@ public final class CookingBoundariesTest extends Checks {
         imagesAndStatus();
         theFraction();
         digests();
+        firstReasons();
         end("the boundaries of cooking, cards, images");
     }
 
@@ -366,7 +367,7 @@ public final class CookingBoundariesTest extends Checks {
     }
 
     private static void endsTooEarly() {
-        of("THE TEXT's length, if it ends too early");
+        of("the TEXT's length, if it ends too early");
         String[] whole = {"cook 0 0;", "dish;", "step 0 1 0 0 1;", "knives 3;", "strike;"};
         for (String item : whole) {
             int word = item.indexOf(' ') < 0 ? item.length() - 1 : item.indexOf(' ');
@@ -586,7 +587,7 @@ public final class CookingBoundariesTest extends Checks {
         due(1, x.from(0));
         due(3, x.soonest());
         due(0, x.count(3));
-        of("An IMAGE is kept: the last one");
+        of("An IMAGE is kept ... the last one");
         x.cook(COOK, 0);
         x.image(1);
         x.from(0);
@@ -678,7 +679,7 @@ public final class CookingBoundariesTest extends Checks {
     }
 
     private static void fractionStays() {
-        of("THE FRACTION: burns, letGo alone tell it");
+        of("THE FRACTION ... burns, letGo alone tell it");
         CookHands x = shared(2);
         x.burns(10);
         fractionDue(x, 1, 4);
@@ -721,5 +722,50 @@ public final class CookingBoundariesTest extends Checks {
         x.soonest();
         x.spared();
         due(digestOf(told), x.digest());
+    }
+
+    private static void firstReasons() {
+        of("Refused, changing nothing but STATUS, the first of");
+        CookHands full = longest(COOK, COOK, COOK, COOK, COOK, COOK);
+        typeByEight(full, " ".repeat(200));
+        refused(full, BAD, k -> k.cook(6, 9));
+        refused(full, BAD, k -> k.cook(5, 10));
+        refused(full, FULL, k -> k.cook(5, 9));
+        refused(full, BAD, k -> k.step(2, 1, 0, 2, 1));
+        refused(full, FULL, k -> k.step(2, 1, 0, 1, 1));
+        refused(full, FULL, k -> k.dish());
+        refused(full, BAD, k -> k.type(0, 9));
+        refused(full, FULL, k -> k.type(0, 8));
+        CookHands none = withDish(kitchen(COOK), 2, 0, 0, 1);
+        refused(none, BAD, k -> k.burns(21));
+        refused(none, NO, k -> k.burns(20));
+        refused(none, BAD, k -> k.letGo(1));
+        refused(none, NO, k -> k.letGo(0));
+        refused(none, BAD, k -> k.cooked(3));
+        refused(none, NO, k -> k.cooked(1));
+        refused(none, BAD, k -> k.from(2));
+        refused(none, NO, k -> k.from(1));
+        of("(where others are told they count as these)");
+        refused(none, BAD, -10, k -> k.drawn(21, 0));
+        refused(none, NO, -20, k -> k.drawn(20, 0));
+        refused(none, BAD, -10, k -> k.row(-1));
+        refused(none, BAD, -10, k -> k.whose(2, 0));
+        refused(none, BAD, -10, k -> k.help(2));
+        refused(none, BAD, NONE, k -> k.status(3));
+        of("... NONE, -5, a CARD's faults are no refusals");
+        asked(none, -5, k -> k.row(0));
+        asked(none, NONE, k -> k.whose(1, 0));
+        asked(none, -5, k -> k.whose(0, 0));
+        asked(none, NONE, k -> k.soonest());
+        asked(none, NONE, k -> k.cold(60));
+        asked(none, NONE, k -> k.help(1));
+        asked(none, NONE, k -> k.spared());
+        asked(none, NONE, k -> k.strikeCost());
+        asked(none, NONE, k -> k.wages());
+        asked(none, NONE, k -> k.limb(0, 0));
+        type(none, "strike;strike");
+        asked(none, -23, k -> k.read());
+        type(none, ";");
+        asked(none, -1001, k -> k.read());
     }
 }

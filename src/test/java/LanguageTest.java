@@ -6,8 +6,11 @@ import java.nio.file.Files;
 import java.nio.file.Path;
 import java.util.ArrayList;
 import java.util.Arrays;
+import java.util.HashSet;
 import java.util.List;
+import java.util.Map;
 import java.util.Set;
+import java.util.TreeMap;
 import java.util.TreeSet;
 import java.util.regex.Matcher;
 import java.util.regex.Pattern;
@@ -37,6 +40,7 @@ public final class LanguageTest {
         classes();
         words(source, code);
         methods(code);
+        callsInCalls(code);
         System.out.println(wrong == 0 ? "the class keeps to its face and language" : wrong + " faults of language");
         System.exit(wrong == 0 ? 0 : 1);
     }
@@ -134,5 +138,96 @@ public final class LanguageTest {
                 start = -1;
             }
         }
+    }
+
+    /** No call is a recursion, and none goes more than eight deep. */
+    private static void callsInCalls(String code) {
+        Map<String, String> bodies = bodies(code);
+        Map<String, Set<String>> classes = classesOfNames(code);
+        must(bodies.size() > FACE.length, "the methods were not found");
+        for (String method : bodies.keySet()) {
+            int deep = deepest(method, bodies, classes, new ArrayList<>());
+            must(deep <= 8, method + " goes " + deep + " deep");
+        }
+    }
+
+    /** Of each "Class.method" the lines between its braces. */
+    private static Map<String, String> bodies(String code) {
+        Map<String, String> bodies = new TreeMap<>();
+        Pattern head = Pattern.compile("^( *)(?:public|private) .*?(\\w+)\\(.*\\) \\{$");
+        String inside = "CookHands";
+        String method = null;
+        String end = "";
+        StringBuilder body = new StringBuilder();
+        for (String line : code.split("\n", -1)) {
+            Matcher nested = Pattern.compile("^ {4}private static final class (\\w+) \\{$").matcher(line);
+            Matcher start = head.matcher(line);
+            if (nested.find()) {
+                inside = nested.group(1);
+            } else if (method == null && start.find()) {
+                method = inside + "." + start.group(2);
+                end = start.group(1) + "}";
+                body.setLength(0);
+            } else if (method != null && line.equals(end)) {
+                must(!bodies.containsKey(method), method + " stands there twice");
+                bodies.put(method, body.toString());
+                method = null;
+            } else {
+                body.append(line).append('\n');
+            }
+        }
+        return bodies;
+    }
+
+    private static int deepest(String method, Map<String, String> bodies, Map<String, Set<String>> classes, List<String> above) {
+        must(!above.contains(method), method + " calls itself");
+        if (above.contains(method) || above.size() > 20) {
+            return 0;
+        }
+        above.add(method);
+        int deep = 0;
+        for (String called : calledIn(method, bodies, classes)) {
+            deep = Math.max(deep, deepest(called, bodies, classes, above));
+        }
+        above.remove(above.size() - 1);
+        return 1 + deep;
+    }
+
+    /** Of each name that stands for an object, or for a class itself, the classes that it may be of. */
+    private static Map<String, Set<String>> classesOfNames(String code) {
+        Map<String, Set<String>> classes = new TreeMap<>();
+        for (Class<?> c : CookHands.class.getDeclaredClasses()) {
+            classes.computeIfAbsent(c.getSimpleName(), n -> new TreeSet<>()).add(c.getSimpleName());
+            Matcher declared = Pattern.compile("\\b" + c.getSimpleName() + "(?:\\[\\])? ([a-z]\\w*)").matcher(code);
+            while (declared.find()) {
+                classes.computeIfAbsent(declared.group(1), n -> new TreeSet<>()).add(c.getSimpleName());
+            }
+        }
+        return classes;
+    }
+
+    /** A call behind a dot is of the class of the name ahead of it, or of any; one without, of the own class or the outer one. */
+    private static Set<String> calledIn(String method, Map<String, String> bodies, Map<String, Set<String>> classes) {
+        Set<String> called = new HashSet<>();
+        Matcher call = Pattern.compile("(?:(\\w*)(?:\\[[^\\]]*\\]|\\))?(\\.))?\\b(\\w+)\\(").matcher(bodies.get(method));
+        while (call.find()) {
+            String name = call.group(3);
+            Set<String> of = new TreeSet<>(List.of(method.substring(0, method.indexOf('.')), "CookHands", name));
+            if (call.group(2) != null) {
+                of = classes.getOrDefault(call.group(1), call.group(1).isEmpty() ? allClasses(classes) : Set.of());
+            }
+            for (String one : of) {
+                if (bodies.containsKey(one + "." + name)) {
+                    called.add(one + "." + name);
+                }
+            }
+        }
+        return called;
+    }
+
+    private static Set<String> allClasses(Map<String, Set<String>> classes) {
+        Set<String> all = new TreeSet<>();
+        classes.values().forEach(all::addAll);
+        return all;
     }
 }

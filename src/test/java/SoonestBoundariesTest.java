@@ -157,7 +157,7 @@ public final class SoonestBoundariesTest extends Checks {
         asked(withDish(kitchen(COOK), 2, 0, 2, 1), NONE, k -> k.help(0));
         asked(withDish(withDish(kitchen(COOK), 1, 0, 1, 2), 1, 0, 1, 3), 0, k -> k.help(0));
         asked(withDish(withDish(kitchen(COOK), 1, 0, 1, 2), 1, 0, 0, 3), 2, k -> k.help(0));
-        of("SOONEST less SOONEST with one ... hand more: from how they are now");
+        of("SOONEST less SOONEST with one ... (from how they are now)");
         CookHands y = withDish(withDish(kitchen(COOK), 1, 0, 0, 2), 1, 0, 0, 3);
         y.cooked(1);
         asked(y, 1, k -> k.help(0));
@@ -189,7 +189,7 @@ public final class SoonestBoundariesTest extends Checks {
     }
 
     private static void strikeCost() {
-        of("SOONEST in a STRIKE less SOONEST without one. NONE: one of both can not be");
+        of("SOONEST in a STRIKE less SOONEST without one. ... NONE: one of both can not be");
         asked(new CookHands(), 0, k -> k.strikeCost());
         asked(withDish(kitchen(COOK), 1, 0, 0, 5), 0, k -> k.strikeCost());
         asked(withDish(kitchen(STRIKER), 1, 0, 0, 5), NONE, k -> k.strikeCost());
@@ -461,7 +461,7 @@ public final class SoonestBoundariesTest extends Checks {
     }
 
     private static void askedFirst() {
-        of("each asking call, as the first one and behind each other one");
+        of("... each asking call, as the first one and behind each other one");
         for (int order = 0; order < 11; order++) {
             firstDue(order, 4, k -> k.soonest());
             firstDue(order, 4, k -> k.row(0));
