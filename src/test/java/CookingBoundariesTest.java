@@ -377,6 +377,14 @@ public final class CookingBoundariesTest extends Checks {
                 faultDue(5 + (length < word ? 0 : length), "dish;" + item.substring(0, length));
             }
         }
+        CookHands x = new CookHands();
+        for (String item : whole) {
+            x.clear();
+            typeByEight(x, item);
+            x.clear();
+            typeByEight(x, item.substring(0, item.length() - 1));
+            due(-10 - (item.length() - 1), x.read());
+        }
         faultDue(200, "dish;".repeat(39) + " dish");
         faultDue(195, "dish;".repeat(39) + "dis;");
         faultDue(199, "dish;".repeat(39) + "dish0");

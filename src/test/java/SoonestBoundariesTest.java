@@ -388,6 +388,8 @@ public final class SoonestBoundariesTest extends Checks {
             later.cooked(1 << dish);
             due(1, later.letGo(1));
             fractionDue(later, 1, 2);
+            due(1, later.letGo(0));
+            fractionDue(later, 1, 1);
             due(4, later.wages());
         }
         CookHands knife = withDish(withDish(kitchen(COOK, APPRENTICE, APPRENTICE), 1, 0, 0, 1), 2, 0, 1, 1);
